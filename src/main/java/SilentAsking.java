@@ -81,7 +81,7 @@ public final class SilentAsking {
         if (!isStore(j)) {
             return UNKNOWN;
         }
-        if (!isKind(kind) || kind == LYING && !isLie(d)) {
+        if (!isKind(kind) || (kind == LYING && !isLie(d))) {
             return BAD;
         }
         Store store = storeOf(j);
@@ -298,7 +298,7 @@ public final class SilentAsking {
         if (first.kind == LAZY || second.kind == LAZY) {
             return NONE;
         }
-        return toldOfSet(first, set) ^ toldOfSet(second, set ^ 1 << i);
+        return toldOfSet(first, set) ^ toldOfSet(second, set ^ (1 << i));
     }
 
     // ---- words
@@ -439,7 +439,7 @@ public final class SilentAsking {
     }
 
     private static int bit(int set, int k) {
-        return set >> k & 1;
+        return (set >> k) & 1;
     }
 
     private static int inverse(int gap) {
@@ -475,8 +475,8 @@ public final class SilentAsking {
     }
 
     private int firstPicks() {
-        int needed = question.degree + 1;
-        return (1 << needed) - 1 << row.size - needed;
+        int picked = question.degree + 1;
+        return ((1 << picked) - 1) << (row.size - picked);
     }
 
     private boolean tellsRecordsApart(int set) {

@@ -6,7 +6,7 @@ import java.util.Random;
 /** Long runs of calls, each answer compared with that of a slow reading of the document. */
 public final class ModelTest {
     private static final int RUNS = 150;
-    private static final int CALLS = 512;
+    private static final int CALLS = 511;
     private static final int MOST_TOLD = 20;
 
     private static int wrong = 0;
@@ -25,8 +25,10 @@ public final class ModelTest {
         Random chance = new Random(run);
         SilentAsking x = new SilentAsking();
         Model model = new Model();
-        x.records(1 + run % 3);
-        model.records(1 + run % 3);
+        if (run % 4 != 0) {
+            x.records(run % 4);
+            model.records(run % 4);
+        }
         for (int n = 0; n < CALLS; n++) {
             String[] names = run % 2 == 0 ? Model.CALLS : Model.FETCHING;
             String name = names[chance.nextInt(names.length)];

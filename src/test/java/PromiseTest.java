@@ -14,6 +14,7 @@ public final class PromiseTest {
 
     public static void main(String[] args) {
         newObject();
+        newObjectFetches();
         records();
         recordsBeginAnew();
         put();
@@ -89,6 +90,21 @@ public final class PromiseTest {
             due("1 taken(j, 0, 0)", x.taken(j, 0, 0), 0);
             due("1 caught(j)", x.caught(j), 0);
         }
+    }
+
+    private static void newObjectFetches() {
+        SilentAsking x = new SilentAsking();
+        due("1 no question", x.fetch(9), STATE);
+        due("1 both(9, 3)", x.both(9, 3), 0);
+        due("1 ask(1, 2, 4)", x.ask(1, 2, 4), 2);
+        due("1 not veiled", x.veil(NONE), 0);
+        for (int j = 1; j <= 9; j++) {
+            due("1 answer(" + j + ")", x.answer(j), 0);
+            due("1 copy(" + j + ", 1)", x.copy(j, 1), 0);
+        }
+        due("1 fetch(3)", x.fetch(3), 0);
+        x.put(1, 40);
+        due("1 fetch(9)", x.fetch(9), 40);
     }
 
     private static void records() {
@@ -606,6 +622,10 @@ public final class PromiseTest {
         x.ask(3, 1, 77);
         due("19 learns(512)", x.learns(512), 0);
         due("19 learns(514)", x.learns(514), 1);
+        x.records(1);
+        x.ask(1, 1, 77);
+        due("19 two records", x.learns(128), 0);
+        due("19 two records", x.learns(130), 1);
     }
 
     private static void least() {
