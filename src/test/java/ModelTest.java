@@ -8,12 +8,21 @@ public final class ModelTest {
     private static final int RUNS = 150;
     private static final int CALLS = 511;
     private static final int MOST_TOLD = 20;
+    private static final int STARTS = 8;
+    private static final int[] EDGES = {
+        Integer.MIN_VALUE, -10, -9, -8, -1, 0, 1, 2, 3, 4, 7, 8, 9, 10, 15, 16, 96, 97,
+        255, 256, 1022, 1023, 1024, Integer.MAX_VALUE};
+    private static final int[] FEWER_EDGES = {Integer.MIN_VALUE, -1, 0, 1, 2, 3, 4, 8, 9, 10, 16, 255, 256,
+        Integer.MAX_VALUE};
 
     private static int wrong = 0;
 
     public static void main(String[] args) {
         for (int run = 0; run < RUNS; run++) {
             oneRun(run);
+        }
+        for (int start = 0; start < STARTS; start++) {
+            edgesFrom(start);
         }
         System.out.println(wrong == 0 ? "all answers are as due" : wrong + " answers are not as due");
         if (wrong != 0) {
@@ -33,14 +42,84 @@ public final class ModelTest {
             String[] names = run % 2 == 0 ? Model.CALLS : Model.FETCHING;
             String name = names[chance.nextInt(names.length)];
             int[] with = drawArguments(name, model, chance);
-            long got = Model.call(x, name, with);
-            long want = model.call(name, with);
-            if (got != want && wrong++ < MOST_TOLD) {
-                System.out.println("run " + run + ", call " + n + ": " + name + Arrays.toString(with)
-                    + " answered " + got + ", due is " + want);
+            compare("run " + run + ", call " + n, x, model, name, with);
+        }
+    }
+
+    private static void compare(String which, SilentAsking x, Model model, String name, int... with) {
+        long got = Model.call(x, name, with);
+        long want = model.call(name, with);
+        if (got != want && wrong++ < MOST_TOLD) {
+            System.out.println(which + ": " + name + Arrays.toString(with) + " answered " + got
+                + ", due is " + want);
+        }
+    }
+
+    // ---- every call with every row of edges
+
+    private static void edgesFrom(int start) {
+        for (String name : Arrays.stream(Model.CALLS).distinct().toList()) {
+            int many = argumentsOf(name);
+            int[] edges = many == 4 ? FEWER_EDGES : EDGES;
+            int rows = (int) Math.pow(edges.length, many);
+            SilentAsking x = new SilentAsking();
+            Model model = new Model();
+            for (int row = 0; row < rows; row++) {
+                if (row % 400 == 0) {
+                    x = new SilentAsking();
+                    model = new Model();
+                    begin(start, x, model);
+                }
+                compare("start " + start, x, model, name, rowOf(edges, many, row));
             }
         }
     }
+
+    private static int[] rowOf(int[] edges, int many, int row) {
+        int[] with = new int[many];
+        int rest = row;
+        for (int q = 0; q < many; q++) {
+            with[q] = edges[rest % edges.length];
+            rest /= edges.length;
+        }
+        return with;
+    }
+
+    private static int argumentsOf(String name) {
+        switch (name) {
+            case "least": return 0;
+            case "records": case "record": case "veil": case "answer": case "fetch": case "caught":
+            case "mends": case "might": case "learns": case "total": return 1;
+            case "put": case "copy": case "point": case "ways": case "fits": case "both": return 2;
+            case "pair": return 4;
+            default: return 3;
+        }
+    }
+
+    /** From a new object, through rising m, T and numbers of lazy stores, with a question but at 0 and 4. */
+    private static void begin(int start, SilentAsking x, Model model) {
+        if (start == 0) {
+            return;
+        }
+        int m = 1 + start % 3;
+        compare("begin", x, model, "records", m);
+        for (int i = 0; i < 1 << m; i++) {
+            compare("begin", x, model, "put", i, 96 - i * start);
+        }
+        compare("begin", x, model, "store", 2, 1, 96);
+        compare("begin", x, model, "store", 9, 2, 0);
+        compare("begin", x, model, "put", 1, start);
+        for (int j = 4; j < start; j++) {
+            compare("begin", x, model, "store", j, 3, 0);
+        }
+        if (start != 4) {
+            compare("begin", x, model, "ask", start % 2, 1 + start % 2, Integer.MAX_VALUE - start);
+            compare("begin", x, model, "veil", start);
+            compare("begin", x, model, "fetch", 9);
+        }
+    }
+
+    // ---- random runs
 
     /** Mostly what the call takes, now and then what it refuses. */
     private static int[] drawArguments(String name, Model model, Random chance) {
