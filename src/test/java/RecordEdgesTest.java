@@ -10,7 +10,7 @@ public final class RecordEdgesTest {
         aNewObjectHasTwoRecordsOfZero();
         aNewObjectHasTrueStores();
         aNewObjectHasNoQuestion();
-        theLast512Calls();
+        theFirst512Calls();
         recordsTakesOneToThree();
         recordsTellsHowManyThereWere();
         recordsLeavesAllRecordsZero();
@@ -93,12 +93,12 @@ public final class RecordEdgesTest {
         Checks.due("1 total(6)", x.total(6), NONE);
     }
 
-    private static void theLast512Calls() {
+    private static void theFirst512Calls() {
         SilentAsking x = new SilentAsking();
         x.records(3);
         x.put(7, 96);
         x.ask(7, 2, MOST);
-        for (int calls = 3; calls < 510; calls++) {
+        for (int calls = 4; calls <= 510; calls++) {
             Checks.due("call " + calls + " fetch(9)", x.fetch(9), 96);
         }
         Checks.due("call 511 total(2)", x.total(2), 507 * 9);
